@@ -425,8 +425,8 @@ public final class SiegePost {
         int sheets;
         int state;
         int height;
-        int x;
-        int y;
+        int x = TOWN_X;
+        int y = TOWN_Y;
         int hoursAloft;
         int wordHour;
 
@@ -444,22 +444,6 @@ public final class SiegePost {
             y = other.y;
             hoursAloft = other.hoursAloft;
             wordHour = other.wordHour;
-        }
-
-        void begin(int newSize) {
-            size = newSize;
-            gas = 0;
-            ballast = 0;
-            couriers = 0;
-            courierWeight = 0;
-            letters = 0;
-            sheets = 0;
-            state = IN_TOWN;
-            height = 0;
-            x = TOWN_X;
-            y = TOWN_Y;
-            hoursAloft = 0;
-            wordHour = 0;
         }
 
         int weight() {
@@ -533,7 +517,10 @@ public final class SiegePost {
         }
     }
 
-    /** All that changes can change. Each change looks at everything that speaks against it before it changes anything. */
+    /**
+     * All that changes can change. Each change looks at everything that speaks against it before it changes anything.
+     * Rows of balloons and letters that are not counted yet are as new, as towns are copied with all their rows.
+     */
     private static final class Town {
         final int[] windX = new int[HEIGHTS];
         final int[] windY = new int[HEIGHTS];
@@ -640,7 +627,7 @@ public final class SiegePost {
             if (balloonCount >= MOST_BALLOONS) {
                 return refuse(FULL, MOST_BALLOONS);
             }
-            balloons[balloonCount].begin(size);
+            balloons[balloonCount].size = size;
             balloonCount++;
             return balloonCount - 1;
         }
@@ -717,7 +704,6 @@ public final class SiegePost {
             Letter letter = letters[letterCount];
             letter.sheets = sheets;
             letter.rank = rank;
-            letter.balloon = NO_BALLOON;
             letterCount++;
             return letterCount - 1;
         }
@@ -807,8 +793,9 @@ public final class SiegePost {
             int landed = 0;
             for (int h = 0; h < hours; h++) {
                 for (int i = 0; i < balloonCount; i++) {
-                    if (balloons[i].state == ALOFT && isLandedAfterAnHour(balloons[i])) {
-                        landed++;
+                    if (balloons[i].state == ALOFT) {
+                        letFly(balloons[i]);
+                        landed += balloons[i].state == LANDED ? 1 : 0;
                     }
                 }
                 hour++;
@@ -816,7 +803,7 @@ public final class SiegePost {
             return landed;
         }
 
-        private boolean isLandedAfterAnHour(Balloon balloon) {
+        private void letFly(Balloon balloon) {
             int gasBefore = balloon.gas;
             balloon.flyAnHour(this);
             gasLeaked += gasBefore - balloon.gas;
@@ -827,7 +814,6 @@ public final class SiegePost {
                 ballastLanded += balloon.ballast;
                 balloon.wordHour = hour + (balloon.distance() + 4) / 5;
             }
-            return balloon.state == LANDED;
         }
 
         /** Puts into ahead how a balloon would be at its end, if it let the ballast go now. */

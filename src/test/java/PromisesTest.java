@@ -38,10 +38,12 @@ public final class PromisesTest {
         errorPositions();
         refusals();
         accounts();
+        fullTown();
         ballastAddsUp();
         means();
         undoing();
         undoingEachChange();
+        undoingOne();
         snapshots();
         Script.end();
     }
@@ -400,6 +402,9 @@ public final class PromisesTest {
         run("27: ends too early at the very end", "append \"h1;h1;h1;h1;h1;h1;h1;h1;h1;h1;h1;h1;h1;h1;h1;h1;h1;h1;h1;h1;\" -> 60; read() ->"
                 + ILLEGAL + "; errorPosition() -> 60; append \"h1;h1;h1;h1;h1;h1;h1;h1;h1;h1;h1;h1;h1;h1;h1;h1;h1;h1;h1;f0\" -> 59;"
                 + "read() ->" + ILLEGAL + "; errorPosition() -> 59; account(0) -> 0;");
+        run("27: an earlier text that was longer", "append \"h1;u0\"; read() ->" + ILLEGAL + "; errorPosition() -> -1; append \"h1;\"; read() ->"
+                + ILLEGAL + "; errorPosition() -> 3; append \"f0=55\"; read() ->" + ILLEGAL + "; append \"f0\"; read() ->" + ILLEGAL
+                + "; errorPosition() -> 2; append \"h12\"; read() -> 1; append \"h1\"; read() -> 1; account(0) -> 13;");
         run("27: the latest text", "append \"hx\"; read() ->" + ILLEGAL + "; errorPosition() -> 1; append \"h\"; errorPosition() -> 1;"
                 + "append \"1\"; read() -> 1; errorPosition() -> -1; append \"x\"; read() ->" + ILLEGAL
                 + "; errorPosition() -> 0; undo() -> 0; errorPosition() -> 0; append \"u0\"; read() ->" + ILLEGAL
@@ -425,10 +430,25 @@ public final class PromisesTest {
                 + "account(12) -> 1; account(18) -> 22;");
     }
 
+    private static void fullTown() {
+        StringBuilder script = new StringBuilder();
+        for (int i = 0; i < 24; i++) {
+            script.append("letter(").append(i % 3 + 1).append(", ").append(i % 3).append(");");
+        }
+        for (int i = 0; i < 6; i++) {
+            script.append("balloon(20); fill(").append(i).append(", 12); ballast(").append(i).append(", ").append(i + 1).append(");");
+        }
+        run("A full town", script + "isWell() -> true; account(4) -> 6; account(9) -> 24; account(14) -> 21; waiting(23) -> 21; waiting(24) ->"
+                + NO_ELEMENT + "; weightAgain(0) -> 3; loadAll(0) -> 10; loadAll(5) -> 6; weightAgain(0) -> 12; weightAgain(5) -> 12;"
+                + "wind(0, 3, 3); launch(0) -> 0; launch(1) -> 8; launch(2) -> 7; launch(5) -> 0; pass(48) -> 2; account(4) -> 2;"
+                + "account(5) -> 0; account(6) -> 2; account(7) -> 2; account(9) -> 8; account(12) -> 16; account(13) -> 0; isWell() -> true;"
+                + "meanDistance() -> 12.0; share() -> 0.0; account(14) -> 21; account(16) -> 5; account(17) -> 7;");
+    }
+
     private static void ballastAddsUp() {
-        run("30: isWell", "isWell() -> true;" + FLIGHT + "balloon(20); ballast(1, 3); isWell() -> true; fill(1, 20); balloon(20);"
+        run("30: isWell", "isWell() -> true;" + FLIGHT + "undo(); ballast(0, 2); launch(0) -> 2; balloon(20); ballast(1, 3); isWell() -> true; fill(1, 20); balloon(20);"
                 + "ballast(2, 4); fill(2, 20); launch(2); drop(2, 1); isWell() -> true; launch(1); wind(1, 1, 1); wind(2, 1, -1);"
-                + "isWell() -> true; pass(48); isWell() -> true; account(14) -> 7; account(15) -> 1; balloon(99); fill(3, 50);"
+                + "isWell() -> true; pass(48); isWell() -> true; account(14) -> 9; account(15) -> 1; account(16) -> 2; account(17) -> 6; gas(50); balloon(99); fill(3, 50);"
                 + "ballast(3, 20); launch(3); wind(0, 3, 3); wind(1, 3, 3); wind(2, 3, 3); wind(3, 3, 3); pass(48);"
                 + "balloonOf(3, 9) -> 41; isWell() -> true; undo(); isWell() -> true; save(); pass(3); isWell() -> true; restore();"
                 + "isWell() -> true;");
@@ -475,6 +495,22 @@ public final class PromisesTest {
                 + "undo(); account(13) -> 0; word(0) -> 7; undo(); word(0) ->" + NO_ELEMENT + "; pass(1); pass(4) -> 1; word(0) -> 7;");
     }
 
+    /** The gas tells whether exactly the state ahead of the change came back. */
+    private static void undoingOne() {
+        String start = "balloon(20); balloon(20); fill(0, 18); fill(1, 2); launch(1) -> 0; letter(3, 1); ballast(0, 3); gas(7) -> 87;";
+        String[] changes = {"ring(2)", "wind(1, 1, 1)", "gas(1)", "balloon(10)", "fill(0, 1)", "ballast(0, 2)", "courier(0, 5)",
+            "letter(1, 1)", "load(0, 0)", "loadAll(0)", "launch(0)", "pass(1)"};
+        for (String change : changes) {
+            run("33: " + change, start + change + "; account(20) -> 8; undo() -> 7; account(2) -> 87; account(1) -> 5; account(0) -> 0;"
+                    + "account(3) -> 2; balloonOf(0, 1) -> 18; balloonOf(0, 2) -> 3; balloonOf(0, 3) -> 0; account(8) -> 1;"
+                    + "account(9) -> 1; account(10) -> 0; sign(0) -> t; sign(1) -> a; account(18) -> 0; account(14) -> 3;"
+                    + "waiting(0) -> 0; balloonOf(0, 4) -> 0; balloonOf(0, 5) -> 5; weightAgain(0) -> 5; wind(1, 0, 0) -> 0;");
+        }
+        run("33: drop", start + "launch(0) -> 13; gas(1) -> 88; drop(0, 2) -> 1; undo() -> 7; account(2) -> 88; balloonOf(0, 2) -> 3;"
+                + "account(15) -> 0;");
+        run("33: read", start + "append \"h1\"; read() -> 1; undo() -> 7; account(2) -> 87; account(0) -> 0; sign(1) -> a;");
+    }
+
     private static void snapshots() {
         run("34, 35: save and restore", "restore() ->" + NO_STATE + "; save() -> 0; balloon(20); letter(4, 1); wind(0, 3, 1); save() -> 1;"
                 + "fill(0, 20); load(0, 0); ring(9); gas(7); balloon(30); launch(0); pass(2); append \"zz\"; account(20) -> 8;"
@@ -488,6 +524,16 @@ public final class PromisesTest {
                 + "account(1) -> 2;");
         run("35: the input, the error position and the reason stay", "save(); append \"hx\"; read() ->" + ILLEGAL + "; balloon(10); launch(0) ->"
                 + REFUSED + "; append \"q\"; restore() -> 0; errorPosition() -> 1; refusal(false) -> 9; refusal(true) -> 1; account(19) -> 1;");
+        run("35: what was added otherwise meanwhile", "balloon(40); fill(0, 40); ballast(0, 1); courier(0, 5); letter(9, 2); load(0, 0);"
+                + "save(); undo(); undo(); undo(); undo(); undo(); undo() -> 0; balloon(30); letter(1, 0); fill(0, 3); launch(0) -> 0;"
+                + "restore() -> 1; balloonOf(0, 0) -> 40; letterOf(0, 0) -> 9; letterOf(0, 1) -> 2; letterOf(0, 3) -> 0; balloonOf(0, 1) -> 40;"
+                + "balloonOf(0, 5) -> 13; sign(0) -> t; undo() ->" + NO_STATE);
+        run("35: heights and words", FLIGHT + "pass(5) -> 1; save(); undo(); undo(); undo(); undo(); fill(0, 10); balloon(20); ballast(1, 8);"
+                + "fill(1, 20); launch(1) -> 10; wind(2, 0, 1); pass(1); balloonOf(1, 8) -> 2; restore() -> 1; word(0) -> 7; balloonOf(0, 8) -> 0;"
+                + "balloon(20); fill(1, 20); launch(1) -> 18; pass(1); balloonOf(1, 8) -> 4; save(); pass(3); balloonOf(1, 8) -> 3;"
+                + "drop(1, 1) ->" + REFUSED + "; restore(); balloonOf(1, 8) -> 4;");
+        run("35: words come back", FLIGHT + "pass(5) -> 1; word(0) -> 7; save(); undo(); wind(0, 2, 0); pass(5) -> 1; word(0) -> 6; restore();"
+                + "word(0) -> 7; balloonOf(0, 9) -> 32;");
         run("35: flights come back", FLIGHT + "pass(3); save() -> 1; pass(2) -> 1; restore() -> 1; sign(0) -> a; balloonOf(0, 9) -> 29;"
                 + "balloonOf(0, 11) -> 3; endsIn(0) -> 2; account(18) -> 3; pass(2) -> 1; word(0) -> 7;");
     }
