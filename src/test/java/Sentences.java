@@ -1,0 +1,94 @@
+import java.io.IOException;
+import java.nio.file.Files;
+import java.nio.file.Path;
+import java.util.ArrayList;
+import java.util.List;
+import java.util.Map;
+import java.util.TreeMap;
+
+/**
+ * Tests that hold sentences of the document: each is named by its section and by the very words that it holds. In the
+ * end the words are looked for in the document (its path is the property "document"), and so are sentences without a
+ * test.
+ */
+final class Sentences {
+    private static final Map<String, List<String>> HELD = new TreeMap<>();
+
+    private Sentences() {
+    }
+
+    /** A test of its own for words of a section; aCase tells which of their boundary cases it is. */
+    static void holds(String section, String words, String aCase, String script) {
+        Script.run(titleOf(section, words, aCase), script);
+    }
+
+    /** The same, for two scripts that must lead to the same state. */
+    static void holds(String section, String words, String aCase, String script, String other) {
+        Script.runBoth(titleOf(section, words, aCase), script, other);
+    }
+
+    private static String titleOf(String section, String words, String aCase) {
+        HELD.computeIfAbsent(section, s -> new ArrayList<>()).add(words);
+        return section + ": \"" + words + "\" - " + aCase;
+    }
+
+    static void end() {
+        String document = System.getProperty("document", "");
+        if (Files.isReadable(Path.of(document)) && !document.isEmpty()) {
+            HELD.forEach((section, held) -> compare(section, held, sentencesOf(Path.of(document), section)));
+        } else {
+            System.out.println("the sentences were not looked for in the document: -Ddocument tells no such file");
+        }
+        Script.end();
+    }
+
+    private static void compare(String section, List<String> held, List<String> sentences) {
+        for (String words : held) {
+            if (sentences.stream().noneMatch(sentence -> sentence.contains(words))) {
+                Script.tellWrong(section, "the document does not say: " + words);
+            }
+        }
+        for (String sentence : sentences) {
+            if (held.stream().noneMatch(sentence::contains)) {
+                Script.tellWrong(section, "no test holds: " + sentence);
+            }
+        }
+    }
+
+    /** The sentences of a section; a line that tells an argument counts as one if it names a number. */
+    private static List<String> sentencesOf(Path document, String section) {
+        List<String> sentences = new ArrayList<>();
+        for (String paragraph : textOf(document, section).split("\n\n+|\n(?=- )")) {
+            String told = paragraph.strip().replaceFirst("^`[^`]*\\)[^`]*`: ", "").replaceAll("\\s+", " ");
+            if (told.startsWith("- ")) {
+                if (told.matches(".*\\d.*")) {
+                    sentences.add(told);
+                }
+                continue;
+            }
+            for (String sentence : told.split("(?<=\\.) (?=[A-Z])")) {
+                // The words at the head of a paragraph, as "Map.", are no sentence.
+                if (sentence.indexOf(' ') > 0 && !sentence.equals("In doubt, too.")) {
+                    sentences.add(sentence);
+                }
+            }
+        }
+        return sentences;
+    }
+
+    /** What stands between the heading of a section and the next one; the examples are held by PromisesTest. */
+    private static String textOf(Path document, String section) {
+        try {
+            String text = Files.readString(document).replace("\r", "");
+            for (String part : text.split("\n## ")) {
+                String heading = part.lines().findFirst().orElse("");
+                if (heading.equals(section)) {
+                    return part.substring(heading.length()).split("\nExamples\\. ")[0].strip();
+                }
+            }
+        } catch (IOException e) {
+            Script.tellWrong(section, "the document cannot be read");
+        }
+        return "";
+    }
+}
