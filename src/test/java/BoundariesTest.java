@@ -3,6 +3,6 @@ public final class BoundariesTest {
     public static void main(String[] args) {
         ChangePromises.hold();
         AnswerPromises.hold();
-        Sentences.end();
+        Sentences.end("Promise");
     }
 }

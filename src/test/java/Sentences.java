@@ -32,10 +32,17 @@ final class Sentences {
         return section + ": \"" + words + "\" - " + aCase;
     }
 
-    static void end() {
+    /** Ends the tests of the sections whose headings begin so. */
+    static void end(String heading) {
         String document = System.getProperty("document", "");
-        if (Files.isReadable(Path.of(document)) && !document.isEmpty()) {
-            HELD.forEach((section, held) -> compare(section, held, sentencesOf(Path.of(document), section)));
+        if (!document.isEmpty() && Files.isReadable(Path.of(document))) {
+            Map<String, String> sections = sectionsOf(Path.of(document));
+            for (String section : sections.keySet()) {
+                if (section.startsWith(heading)) {
+                    HELD.computeIfAbsent(section, s -> new ArrayList<>());
+                }
+            }
+            HELD.forEach((section, held) -> compare(section, held, sentencesOf(sections.getOrDefault(section, ""))));
         } else {
             System.out.println("the sentences were not looked for in the document: -Ddocument tells no such file");
         }
@@ -56,9 +63,9 @@ final class Sentences {
     }
 
     /** The sentences of a section; a line that tells an argument counts as one if it names a number. */
-    private static List<String> sentencesOf(Path document, String section) {
+    private static List<String> sentencesOf(String section) {
         List<String> sentences = new ArrayList<>();
-        for (String paragraph : textOf(document, section).split("\n\n+|\n(?=- )")) {
+        for (String paragraph : section.split("\n\n+|\n(?=- )")) {
             String told = paragraph.strip().replaceFirst("^`[^`]*\\)[^`]*`: ", "").replaceAll("\\s+", " ");
             if (told.startsWith("- ")) {
                 if (told.matches(".*\\d.*")) {
@@ -76,19 +83,17 @@ final class Sentences {
         return sentences;
     }
 
-    /** What stands between the heading of a section and the next one; the examples are held by PromisesTest. */
-    private static String textOf(Path document, String section) {
+    /** By its heading, what stands behind it and ahead of the next one; the examples are held by PromisesTest. */
+    private static Map<String, String> sectionsOf(Path document) {
+        Map<String, String> sections = new TreeMap<>();
         try {
-            String text = Files.readString(document).replace("\r", "");
-            for (String part : text.split("\n## ")) {
+            for (String part : Files.readString(document).replace("\r", "").split("\n## ")) {
                 String heading = part.lines().findFirst().orElse("");
-                if (heading.equals(section)) {
-                    return part.substring(heading.length()).split("\nExamples\\. ")[0].strip();
-                }
+                sections.put(heading, part.substring(heading.length()).split("\nExamples\\. ")[0].strip());
             }
         } catch (IOException e) {
-            Script.tellWrong(section, "the document cannot be read");
+            Script.tellWrong("document", "it cannot be read");
         }
-        return "";
+        return sections;
     }
 }

@@ -3,6 +3,6 @@ public final class TermsTest {
     public static void main(String[] args) {
         FlightTerms.hold();
         OrderTerms.hold();
-        Sentences.end();
+        Sentences.end("Terms");
     }
 }
