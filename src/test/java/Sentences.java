@@ -1,6 +1,3 @@
-import java.io.IOException;
-import java.nio.file.Files;
-import java.nio.file.Path;
 import java.util.ArrayList;
 import java.util.List;
 import java.util.Map;
@@ -8,8 +5,7 @@ import java.util.TreeMap;
 
 /**
  * Tests that hold sentences of the document: each is named by its section and by the very words that it holds. In the
- * end the words are looked for in the document (its path is the property "document"), and so are sentences without a
- * test.
+ * end the words are looked for in the document, and so are sentences without a test.
  */
 final class Sentences {
     private static final Map<String, List<String>> HELD = new TreeMap<>();
@@ -34,17 +30,14 @@ final class Sentences {
 
     /** Ends the tests of the sections whose headings begin so. */
     static void end(String heading) {
-        String document = System.getProperty("document", "");
-        if (!document.isEmpty() && Files.isReadable(Path.of(document))) {
-            Map<String, String> sections = sectionsOf(Path.of(document));
+        if (!Pages.DOCUMENT.isEmpty()) {
+            Map<String, String> sections = sections();
             for (String section : sections.keySet()) {
                 if (section.startsWith(heading)) {
                     HELD.computeIfAbsent(section, s -> new ArrayList<>());
                 }
             }
             HELD.forEach((section, held) -> compare(section, held, sentencesOf(sections.getOrDefault(section, ""))));
-        } else {
-            System.out.println("the sentences were not looked for in the document: -Ddocument tells no such file");
         }
         Script.end();
     }
@@ -83,16 +76,12 @@ final class Sentences {
         return sentences;
     }
 
-    /** By its heading, what stands behind it and ahead of the next one; the examples are held by PromisesTest. */
-    private static Map<String, String> sectionsOf(Path document) {
+    /** By its heading, what stands behind it and ahead of the next one; DocumentTest holds what comes from the examples on. */
+    static Map<String, String> sections() {
         Map<String, String> sections = new TreeMap<>();
-        try {
-            for (String part : Files.readString(document).replace("\r", "").split("\n## ")) {
-                String heading = part.lines().findFirst().orElse("");
-                sections.put(heading, part.substring(heading.length()).split("\nExamples\\. ")[0].strip());
-            }
-        } catch (IOException e) {
-            Script.tellWrong("document", "it cannot be read");
+        for (String part : Pages.DOCUMENT.split("\n## ")) {
+            String heading = part.lines().findFirst().orElse("");
+            sections.put(heading, part.substring(heading.length()).split("\nExamples\\. ")[0].strip());
         }
         return sections;
     }
